@@ -143,6 +143,12 @@ public final class ApplicationTest {
         Bench.plot(z, 32, 36, 38, 36, 34, 38);
         applied(z);
         CHECK.due("over a corner, exactly 20", z.object(0, 1), 1);
+        PlanningBench gap = Bench.onePlot();
+        Bench.square(gap, 21, 0, 5);
+        Bench.plot(gap, 20, 21, 30, 22, 21, 30);
+        applied(gap);
+        CHECK.due("at a distance of 1", gap.object(0, 1), 1);
+        CHECK.due("at 1 above a corner", gap.object(0, 2), 1);
     }
 
     private static void decideWaitsForThirtyDays() {

@@ -22,7 +22,7 @@ public final class FaceTest {
 
     public static void main(String[] args) throws IOException {
         members();
-        parametersAreSevenAtMost();
+        classesInside();
         wordsRuledOut();
         CHECK.finish();
     }
@@ -53,10 +53,15 @@ public final class FaceTest {
         CHECK.due("the class is public and final", PlanningBench.class.getModifiers(), Modifier.PUBLIC | Modifier.FINAL);
     }
 
-    private static void parametersAreSevenAtMost() {
+    private static void classesInside() {
+        TreeSet<String> faceNames = new TreeSet<>();
+        for (String line : FACE) {
+            faceNames.add(line.split(" ")[1]);
+        }
         for (Class<?> c : PlanningBench.class.getDeclaredClasses()) {
             CHECK.due(c.getName() + " is static", Modifier.isStatic(c.getModifiers()), true);
             for (Method m : c.getDeclaredMethods()) {
+                CHECK.due(c.getName() + "." + m.getName() + " has a name of its own", faceNames.contains(m.getName()), false);
                 CHECK.due(c.getName() + "." + m.getName() + " takes seven at most", m.getParameterCount() <= 7, true);
             }
             for (Constructor<?> k : c.getDeclaredConstructors()) {

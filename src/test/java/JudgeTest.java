@@ -145,6 +145,9 @@ public final class JudgeTest {
         judged(x, box(0, 10, 10, 17, 16), 34, 40, 5);
         judged(x, box(0, 10, 10, 17, 16), 35, 40, 0);
         judged(x, box(0, 10, 10, 17, 16), 35, 39, 5);
+        PlanningBench half = planned("zone{plots 0;use 0;cover 52;}");
+        judged(half, box(0, 0, 0, 16, 13), 0, 0, 0);
+        judged(half, box(0, 0, 0, 11, 19), 0, 0, 5);
         PlanningBench zero = planned("zone{plots 0;use 0;cover 0;}");
         judged(zero, box(0, 1, 1, 2, 2), 0, 0, 5);
         PlanningBench all = planned("zone{plots 0;use 0;cover 100;}");
@@ -183,6 +186,11 @@ public final class JudgeTest {
         judged(slant, box(0, 5, 5, 25, 20), 0, 0, 0);
         judged(slant, box(0, 5, 5, 26, 20), 0, 0, 6);
         judged(slant, box(0, 5, 5, 25, 21), 0, 0, 6);
+        PlanningBench justBesideItsEnd = new PlanningBench();
+        Bench.plot(justBesideItsEnd, 2, 16, 10, 10, 13, 8, 60, 8, 60, 60, 2, 60);
+        Bench.adopt(justBesideItsEnd, "zone{plots 0;use 0;edge 5;}", 0);
+        judged(justBesideItsEnd, box(0, 13, 14, 20, 20), 0, 0, 6);
+        judged(justBesideItsEnd, box(0, 14, 14, 20, 20), 0, 0, 0);
         PlanningBench wide = new PlanningBench();
         Bench.square(wide, 0, 0, 63);
         Bench.adopt(wide, "zone{plots 0;use 0;edge 31;}", 0);

@@ -11,6 +11,8 @@ public final class PlanTest {
         faultIsOfTheLatestReading();
         faultPlaces();
         textsWithoutFault();
+        bytesBehindTheTextDontCount();
+        textsOfTheWholeTape();
         planInForceByDays();
         zoneTellsItems();
         zoneIsTheFirstThatNames();
@@ -181,6 +183,33 @@ public final class PlanTest {
         place("zone{height 000;edge 00;cover 0;shade 007;}", Bench.NONE);
         place("zone{use 1;use 1;use 1;plots 1 1 1;}", Bench.NONE);
         place("zone{}zone{}zone{}zone{}zone{}zone{}zone{}zone{} ", Bench.NONE);
+    }
+
+    /** The text is cut everywhere: what the tape holds behind the cut must not be read. */
+    private static void bytesBehindTheTextDontCount() {
+        String text = "zone{plots 0 123;use1;height 7;}zone{}";
+        for (int n = 0; n <= text.length(); n++) {
+            PlanningBench x = new PlanningBench();
+            Bench.feed(x, text + "zone");
+            boolean whole = n == 0 || n == 32 || n == 38;
+            boolean inWord = n > 0 && n < 4 || n > 5 && n < 10 || n > 17 && n < 20 || n > 22 && n < 28 || n > 32 && n < 36;
+            int wordStart = n < 5 ? 0 : n < 12 ? 5 : n < 21 ? 17 : n < 30 ? 22 : 32;
+            CHECK.due("adopt(" + n + ", 0)", x.adopt(n, 0), whole ? 0 : Bench.NONE);
+            CHECK.due("fault of the first " + n, x.fault(), whole ? Bench.NONE : inWord ? wordStart : n);
+        }
+    }
+
+    private static void textsOfTheWholeTape() {
+        String[] ends = {"zone", "zone{", "zone{use", "zone{use 1", "zone{use 123", "zone{use 1;", "zone{height", "zone{height 1"};
+        for (String end : ends) {
+            place(" ".repeat(600 - end.length()) + end, 600);
+        }
+        place(" ".repeat(599) + "z", 599);
+        place(" ".repeat(594) + "zone{}", Bench.NONE);
+        place("zone{use" + " 1".repeat(295) + ";}", Bench.NONE);
+        place("zone{use" + " 1".repeat(296), 600);
+        place("zone{" + "use1;".repeat(118) + "    }", Bench.NONE);
+        place("zone{" + "use1;".repeat(119), 600);
     }
 
     private static void planInForceByDays() {
