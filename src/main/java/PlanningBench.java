@@ -255,7 +255,7 @@ public final class PlanningBench {
         return NO_RULE;
     }
 
-    /** The limit is of twice the area in hundredths, so that half corners of rings stay whole. */
+    /** The limit is of twice the area in hundredths, as a ring's area may end in a half. */
     private boolean coversTooMuch(Design design, int limit, int day, int known) {
         int area = design.area();
         for (int i = 0; i < applications.size(); i++) {
