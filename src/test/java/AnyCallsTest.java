@@ -1,12 +1,14 @@
+import java.util.Arrays;
 import java.util.Random;
 
 /**
- * Any calls with any numbers: an exception of the machine would end this test with a failure.
- * What answers NONE or false must leave every count as it was, but for plot() and adopt().
+ * Any calls with any numbers: an exception of the machine would end this test with a failure. A
+ * twin is spared every call that is to do nothing, and must answer all others alike.
  */
 public final class AnyCallsTest {
     private static final Check CHECK = new Check("AnyCallsTest");
     private static final Random RANDOM = new Random(512);
+    private static final int CALLS = 512;
     private static final int[] EDGES = {
         Integer.MIN_VALUE, Integer.MIN_VALUE + 1, -10000, -64, -2, -1, 0, 1, 2, 3, 7, 8, 9, 11, 12, 19, 20, 21, 39, 40, 41,
         63, 64, 99, 100, 101, 600, 601, 9998, 9999, 10000, Integer.MAX_VALUE - 1, Integer.MAX_VALUE,
@@ -14,56 +16,89 @@ public final class AnyCallsTest {
     private static final String[] TEXTS = {
         "zone{plots 0 1 2 3 4 5;use 0 1 2 3;}", "zone{plots 0 1;use 0 1;height 20;cover 60;edge 1;shade 5;}", "zone{", "zone{plots 2;use 1;shade 40;}",
     };
+    /** How many numbers each call of the face takes, in the document's order. */
+    private static final int[] TAKES = {1, 2, 0, 2, 3, 5, 2, 0, 2, 3, 9, 7, 2, 1, 1, 1, 1, 2, 2, 3, 3, 3, 1};
+    private static final int DAY = 0;
+    private static final int CORNER = 1;
+    private static final int PLOT = 2;
+    private static final int FEED = 5;
+    private static final int ADOPT = 6;
+    private static final int APPLY = 11;
+    private static final int OBJECT = 12;
+    private static final int APPEAL = 15;
+    private static final int RAZE = 18;
+    private static final int HOLD = 20;
 
     public static void main(String[] args) {
         for (int i = 0; i < 1500; i++) {
-            run(new PlanningBench(), i % 2 == 0);
+            run(new PlanningBench(), new PlanningBench(), i % 2 == 0);
         }
         CHECK.finish();
     }
 
-    private static void run(PlanningBench x, boolean withPlots) {
+    private static void run(PlanningBench bench, PlanningBench twin, boolean withPlots) {
         int calls = 0;
-        if (withPlots) {
-            for (int i = 0; i < 6; i++) {
-                Bench.square(x, 10 * i, 10 * (i % 2), 10);
-                calls += 5;
-            }
+        for (int i = 0; withPlots && i < 6; i++) {
+            Bench.square(bench, 10 * i, 10 * (i % 2), 10);
+            Bench.square(twin, 10 * i, 10 * (i % 2), 10);
+            calls += 5;
         }
-        while (calls < 490) {
-            int kind = RANDOM.nextInt(26);
-            if (kind == 25) {
-                Bench.adopt(x, TEXTS[RANDOM.nextInt(TEXTS.length)], RANDOM.nextInt(100));
-                calls += 5;
+        while (calls < CALLS - 5) {
+            if (RANDOM.nextInt(26) == 0) {
+                String text = TEXTS[RANDOM.nextInt(TEXTS.length)];
+                int from = RANDOM.nextInt(100);
+                CHECK.due("adopt", Bench.adopt(bench, text, from), Bench.adopt(twin, text, from));
+                calls += 4;
                 continue;
             }
-            long before = state(x);
-            boolean idle = !call(x, kind);
-            if (idle) {
-                CHECK.due("the state behind an idle call of kind " + kind, state(x), before);
+            int kind = RANDOM.nextInt(TAKES.length);
+            int[] numbers = numbersFor(bench, kind);
+            calls += kind == DAY || kind == RAZE ? 2 : 1;
+            int got = answer(bench, kind, numbers);
+            if (!doesNothing(kind, got)) {
+                CHECK.due("call " + kind + " of " + Arrays.toString(numbers) + " to the twin", answer(twin, kind, numbers), got);
             }
-            calls++;
         }
     }
 
-    private static long state(PlanningBench x) {
-        long state = 0;
-        for (int what = 0; what <= 6; what++) {
-            state = 31 * state + x.count(what);
+    /** Whether it is one of the calls that change something, and was refused. */
+    private static boolean doesNothing(int kind, int got) {
+        switch (kind) {
+            case DAY:
+            case RAZE:
+            case HOLD:
+                return got == 0;
+            case ADOPT:
+                return got < Bench.NONE;
+            case CORNER:
+            case FEED:
+            case APPLY:
+                return got == Bench.NONE;
+            default:
+                return kind >= OBJECT && kind <= APPEAL && got < 0;
         }
-        for (int application = 0; application < x.count(3); application++) {
-            for (int what = 0; what <= 9; what++) {
-                state = 31 * state + x.told(application, what);
-            }
+    }
+
+    private static int[] numbersFor(PlanningBench x, int kind) {
+        int[] numbers = new int[TAKES[kind]];
+        for (int i = 0; i < numbers.length; i++) {
+            numbers[i] = any();
         }
-        for (int plot = 0; plot < x.count(1); plot++) {
-            state = 31 * state + x.holder(plot, 9999, 9999);
+        if (kind == DAY) {
+            numbers[0] = x.count(0) + any() % 50;
+        } else if (kind == RAZE) {
+            numbers[1] = x.count(0) - any() % 10;
+        } else if (kind == APPLY && RANDOM.nextInt(3) != 0) {
+            int plot = RANDOM.nextInt(6);
+            int left = 10 * plot + RANDOM.nextInt(5);
+            int low = 10 * (plot % 2) + RANDOM.nextInt(5);
+            return new int[] {plot, left, low, left + 1 + RANDOM.nextInt(5), low + 1 + RANDOM.nextInt(5), 5, RANDOM.nextInt(3)};
         }
-        return 31 * state + x.plan(9999, 9999);
+        return numbers;
     }
 
     /** Any number: mostly a small one, so that calls find something. */
-    private static int n() {
+    private static int any() {
         int kind = RANDOM.nextInt(10);
         if (kind == 0) {
             return EDGES[RANDOM.nextInt(EDGES.length)];
@@ -71,82 +106,61 @@ public final class AnyCallsTest {
         return kind == 1 ? RANDOM.nextInt(64) : RANDOM.nextInt(12);
     }
 
-    /** Whether the call may have changed anything. */
-    private static boolean call(PlanningBench x, int kind) {
+    private static int answer(PlanningBench x, int kind, int[] n) {
         switch (kind) {
-            case 0:
-                return x.day(x.count(0) + n() % 50);
-            case 1:
-                return x.corner(n(), n()) != -1;
-            case 2:
-                x.plot();
-                return true;
+            case DAY:
+                return x.day(n[0]) ? 1 : 0;
+            case CORNER:
+                return x.corner(n[0], n[1]);
+            case PLOT:
+                return x.plot();
             case 3:
-                x.ring(n(), n());
-                return false;
+                return x.ring(n[0], n[1]);
             case 4:
-                x.near(n(), n(), n());
-                return false;
-            case 5:
-                return x.feed(n(), n(), n(), n(), n()) != -1;
-            case 6:
-                return x.adopt(n(), n()) > -2;
+                return x.near(n[0], n[1], n[2]) ? 1 : 0;
+            case FEED:
+                return x.feed(n[0], n[1], n[2], n[3], n[4]);
+            case ADOPT:
+                return x.adopt(n[0], n[1]);
             case 7:
-                x.fault();
-                return false;
+                return x.fault();
             case 8:
-                x.plan(n(), n());
-                return false;
+                return x.plan(n[0], n[1]);
             case 9:
-                x.zone(n(), n(), n());
-                return false;
+                return x.zone(n[0], n[1], n[2]);
             case 10:
-                x.judge(n(), n(), n(), n(), n(), n(), n(), n(), n());
-                return false;
-            case 11:
-                return x.apply(n(), n(), n(), n(), n(), n(), n()) != -1;
-            case 12:
-                return applyWell(x);
+                return x.judge(n[0], n[1], n[2], n[3], n[4], n[5], n[6], n[7], n[8]);
+            case APPLY:
+                return x.apply(n[0], n[1], n[2], n[3], n[4], n[5], n[6]);
             default:
-                return callOnApplications(x, kind);
+                return answerOfApplications(x, kind, n);
         }
     }
 
-    private static boolean applyWell(PlanningBench x) {
-        int plot = RANDOM.nextInt(6);
-        int left = 10 * plot + RANDOM.nextInt(5);
-        int low = 10 * (plot % 2) + RANDOM.nextInt(5);
-        return x.apply(plot, left, low, left + 1 + RANDOM.nextInt(5), low + 1 + RANDOM.nextInt(5), 5, RANDOM.nextInt(3)) != -1;
-    }
-
-    private static boolean callOnApplications(PlanningBench x, int kind) {
+    private static int answerOfApplications(PlanningBench x, int kind, int[] n) {
         switch (kind) {
+            case OBJECT:
+                return x.object(n[0], n[1]);
             case 13:
+                return x.decide(n[0]);
             case 14:
-                return x.object(n(), n()) >= 0;
-            case 15:
+                return x.build(n[0]);
+            case APPEAL:
+                return x.appeal(n[0]);
             case 16:
-                return x.decide(n()) != -1;
+                return x.clash(n[0]);
             case 17:
-            case 18:
-                return x.build(n()) != -1;
+                return x.told(n[0], n[1]);
+            case RAZE:
+                return x.raze(n[0], n[1]) ? 1 : 0;
             case 19:
-                return x.appeal(n()) != -1;
-            case 20:
-                x.clash(n());
-                return false;
+                return x.stands(n[0], n[1], n[2]) ? 1 : 0;
+            case HOLD:
+                return x.hold(n[0], n[1], n[2]) ? 1 : 0;
             case 21:
-                x.told(n(), n());
-                return false;
-            case 22:
-                return x.raze(n(), x.count(0) - n() % 10);
-            case 23:
-                x.stands(n(), n(), n());
-                x.holder(n(), n(), n());
-                x.count(n());
-                return false;
+                return x.holder(n[0], n[1], n[2]);
             default:
-                return x.hold(n(), n(), n());
+                return x.count(n[0]);
         }
     }
 }
