@@ -654,8 +654,8 @@ public final class ApplicationEdgeTest {
             "How many of what STANDS TODAY (but itself) have a point of their insides in common with an APPLICATION's rectangle.");
         PlanningBench x = Bench.onePlot();
         Bench.square(x, 20, 0, 20);
-        int[][] boxes = {{0, 0, 30, 20}, {5, 5, 10, 10}, {9, 9, 11, 11}, {0, 0, 5, 5}, {9, 9, 10, 11}};
-        int[] want = {3, 0, 2, 0, 1};
+        int[][] boxes = {{0, 0, 30, 20}, {5, 5, 10, 10}, {9, 9, 11, 11}, {0, 0, 5, 5}, {9, 9, 10, 11}, {11, 12, 14, 14}, {0, 6, 4, 14}};
+        int[] want = {3, 0, 2, 0, 1, 0, 0};
         for (int[] b : boxes) {
             x.apply(0, b[0], b[1], b[2], b[3], 1, 0);
         }
@@ -663,7 +663,7 @@ public final class ApplicationEdgeTest {
         Bench.done(x, 0, 10, 5, 15, 10);
         int second = Bench.done(x, 0, 5, 10, 10, 15);
         Bench.done(x, 1, 20, 0, 25, 5);
-        for (int i = 0; i < 5; i++) {
+        for (int i = 0; i < want.length; i++) {
             CHECK.due("clash(" + i + ")", x.clash(i), want[i]);
         }
         CHECK.due("but itself", x.clash(second), 0);

@@ -275,6 +275,10 @@ public final class RuleEdgeTest {
         for (int[] b : touching) {
             box(x, b[0], b[1], b[2], b[3], 0);
         }
+        int[][] apart = {{11, 6, 12, 12}, {0, 6, 4, 12}, {5, 13, 10, 14}, {5, 0, 10, 5}, {11, 13, 12, 14}};
+        for (int[] b : apart) {
+            box(x, b[0], b[1], b[2], b[3], 0);
+        }
     }
 
     private static void shade(PlanningBench x, int x0, int x1, int y1, int height, int want) {
@@ -295,6 +299,9 @@ public final class RuleEdgeTest {
         shade(x, 9, 15, 15, 40, 8);
         shade(x, 0, 20, 15, 11, 8);
         shade(x, 7, 8, 15, 11, 8);
+        shade(x, 0, 4, 15, 40, 0);
+        shade(x, 11, 15, 15, 40, 0);
+        shade(x, 5, 10, 10, 11, 0);
         shade(x, 7, 8, 20, 5, 0);
         shade(x, 7, 8, 20, 6, 8);
     }
@@ -333,7 +340,7 @@ public final class RuleEdgeTest {
         shade(slanting, 1, 19, 21, 40, 0);
     }
 
-    /** A rectangle that reaches behind y1 on both sides meets a shade, but not one of no length. */
+    /** With a slanting side between the plots, something may stand beside a design and above it. */
     private static void ruleEightOnAnotherPlot() {
         CHECK.sentence("Terms 2", "has a point of its inside in common with that of something that stands on another PLOT.");
         PlanningBench own = square("zone{plots 0;use 0;shade 10;}");
